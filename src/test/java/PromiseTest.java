@@ -37,6 +37,7 @@ public final class PromiseTest {
         least();
         leastWith();
         why();
+        whyOfSeveralRivals();
         whyAtTheEnd();
         fault();
         drawnSum();
@@ -362,6 +363,17 @@ public final class PromiseTest {
         due("11: by mouth 0", amid.between(2, 6), 2);
         due("11: by mouth 0", amid.frame(3, 3), 0);
         due("11: by mouth 0", drawn(amid, 4, 6), 43);
+
+        LipFlaps open = threeMouths();
+        open.addMouth(3, 4);
+        open.insert(0, 0, 6);
+        open.draw(2, 0);
+        open.draw(5, 2);
+        due("11: by the opening, not from frame 0", open.between(2, 5), 3);
+        due("11: by the opening, not from frame 0", drawn(open, 3, 5), 11);
+        open.draw(2, 3);
+        due("11: the ends stay", open.between(2, 5), 0);
+        due("11: the ends stay", drawn(open, 2, 6), 3122);
 
         LipFlaps tie = new LipFlaps();
         tie.setMouth(0, 2, 2);
@@ -782,6 +794,28 @@ public final class PromiseTest {
         x.pin(1, 0);
         leastIs(x, "28: no plan", NONE);
 
+        LipFlaps one = threeMouths();
+        one.insert(0, 9, 1);
+        one.setMouth(2, 4, 4);
+        leastIs(one, "28: one frame", 9);
+        one.setNumber(2, 0);
+        one.addMouth(9, 9);
+        one.undo();
+        leastIs(one, "28: the smallest of several", 0);
+        due("28: the smallest of several", one.frame(0, 6), 0);
+        one.setSound(0, 0, 0);
+        one.insert(1, 0, 1);
+        leastIs(one, "28: to mouth 0", 0);
+
+        LipFlaps steps = threeMouths();
+        for (int s = 0; s < 3; s++) {
+            steps.setSound(s, 0, 3 * s);
+            steps.insert(s, s, s == 0 ? 2 : 2 * s - 1);
+        }
+        steps.setNumber(1, 2);
+        leastIs(steps, "28: a run amid is held", 3);
+        due("28: a run amid is held", plan(steps, 6), 1122);
+
         LipFlaps twins = new LipFlaps();
         twins.addMouth(0, 4);
         twins.setNumber(1, 2);
@@ -857,6 +891,19 @@ public final class PromiseTest {
         x.pin(1, 1);
         due("30: no plan", x.why(0), NONE);
         due("30: frame first", x.why(4), BAD);
+    }
+
+    private static void whyOfSeveralRivals() {
+        LipFlaps x = new LipFlaps();
+        x.addMouth(6, 4);
+        x.addMouth(9, 4);
+        x.setNumber(1, 3);
+        x.insert(0, 0, 3);
+        x.pin(0, 2);
+        due("30: plan", plan(x, 3), 222);
+        due("30: the rival with the smallest number", x.why(1), 2);
+        x.setMouth(0, 7, 4);
+        due("30: the less wrong rival", x.why(1), 4);
     }
 
     private static void whyAtTheEnd() {
@@ -989,6 +1036,8 @@ public final class PromiseTest {
         due("34: smallest number", x.nearest(8, 9), 1);
         due("34: greater difference", x.nearest(9, 0), 2);
         due("34: greater difference", x.nearest(4, 0), 0);
+        due("34: the least and the greatest", x.nearest(0, 0) * 100 + x.nearest(0, 9) * 10 + x.nearest(9, 9), 2);
+        due("34: of the mouths that there are", new LipFlaps().nearest(0, 0), 0);
         for (int bad : new int[] {-1, 10, Integer.MIN_VALUE, Integer.MAX_VALUE}) {
             due("34: opening", x.nearest(bad, 0), BAD);
             due("34: width", x.nearest(0, bad), BAD);

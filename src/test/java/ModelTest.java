@@ -13,10 +13,6 @@ public final class ModelTest {
     private static final int NONE = -99;
     private static final int RUNS = 400;
     private static final int CALLS = 512;
-    private static final String[] NAMES = {"addMouth", "setMouth", "setSound", "setNumber", "insert", "remove",
-        "stretch", "pin", "draw", "between", "finish", "breathe", "take", "restore", "undo", "append", "clearText",
-        "load", "count", "mouth", "jump", "sound", "number", "segment", "frame", "wrongness", "least", "leastWith",
-        "why", "fault", "drawnSum", "speedFor", "nearest"};
 
     public static void main(String[] args) {
         int wrong = 0;
@@ -48,9 +44,9 @@ public final class ModelTest {
             int b = argument(which, 1);
             int c = argument(which, 2);
             int want = model.call(which, a, b, c);
-            int got = call(which, a, b, c);
+            int got = Calls.call(real, which, a, b, c);
             if (got != want) {
-                System.out.println("run " + run + ", call " + call + ": " + NAMES[which] + "(" + a + ", " + b + ", " + c
+                System.out.println("run " + run + ", call " + call + ": " + Calls.NAMES.get(which) + "(" + a + ", " + b + ", " + c
                     + ") answered " + got + ", due is " + want);
                 return false;
             }
@@ -78,7 +74,7 @@ public final class ModelTest {
         if (dice < 30) {
             return run % 2 == 0 ? 24 : 8;
         }
-        return chance.nextInt(NAMES.length);
+        return chance.nextInt(Calls.NAMES.size());
     }
 
     private String text() {
@@ -118,7 +114,7 @@ public final class ModelTest {
         int frame = chance.nextInt(frames + 1 + (dice == 1 ? 1 : 0)) - (dice < 40 && frames > 0 ? 1 : 0);
         int segment = chance.nextInt(segments + 1) - (dice < 40 && segments > 0 ? 1 : 0);
         int length = 1 + chance.nextInt(run % 3 == 0 ? 21 : 5);
-        switch (NAMES[which]) {
+        switch (Calls.NAMES.get(which)) {
             case "addMouth": case "nearest":
                 return chance.nextInt(10);
             case "setMouth":
@@ -159,45 +155,6 @@ public final class ModelTest {
                 return chance.nextInt(9);
             default:
                 return chance.nextInt(2);
-        }
-    }
-
-    private int call(int which, int a, int b, int c) {
-        LipFlaps x = real;
-        switch (which) {
-            case 0: return x.addMouth(a, b);
-            case 1: return x.setMouth(a, b, c);
-            case 2: return x.setSound(a, b, c);
-            case 3: return x.setNumber(a, b);
-            case 4: return x.insert(a, b, c);
-            case 5: return x.remove(a);
-            case 6: return x.stretch(a, b);
-            case 7: return x.pin(a, b);
-            case 8: return x.draw(a, b);
-            case 9: return x.between(a, b);
-            case 10: return x.finish();
-            case 11: return x.breathe(a);
-            case 12: return x.take(a);
-            case 13: return x.restore(a);
-            case 14: return x.undo();
-            case 15: return x.append(a);
-            case 16: return x.clearText();
-            case 17: return x.load();
-            case 18: return x.count(a);
-            case 19: return x.mouth(a, b);
-            case 20: return x.jump(a, b);
-            case 21: return x.sound(a, b);
-            case 22: return x.number(a);
-            case 23: return x.segment(a, b);
-            case 24: return x.frame(a, b);
-            case 25: return x.wrongness(a, b);
-            case 26: return x.least(a);
-            case 27: return x.leastWith(a, b);
-            case 28: return x.why(a);
-            case 29: return x.fault(a);
-            case 30: return x.drawnSum();
-            case 31: return x.speedFor(a);
-            default: return x.nearest(a, b);
         }
     }
 
@@ -496,7 +453,7 @@ public final class ModelTest {
             List<Frame> frames = now.frames();
             int mouths = now.mouths.size();
             int segments = now.segments.size();
-            switch (NAMES[which]) {
+            switch (Calls.NAMES.get(which)) {
                 case "addMouth":
                     if (!in(a, 0, 9) || !in(b, 0, 9)) {
                         return BAD;
@@ -655,7 +612,7 @@ public final class ModelTest {
             Scene now = state.now;
             List<Frame> frames = now.frames();
             int mouths = now.mouths.size();
-            switch (NAMES[which]) {
+            switch (Calls.NAMES.get(which)) {
                 case "count":
                     return count(now, frames, a);
                 case "mouth":

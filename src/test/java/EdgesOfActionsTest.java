@@ -248,6 +248,10 @@ public final class EdgesOfActionsTest {
         edges.hold("Promise 11", "Draws inbetweens in all frames between two frames", Edges.THREE, """
             insert(0, 0, 3)  pin(1, 2)  draw(0, 0)  draw(2, 0)  between(0, 2) = 0  frame(1, 3) = 0  frame(1, 2) = 2
             """);
+        edges.hold("Promise 11", "in all frames between two frames", Edges.THREE, """
+            addMouth(3, 4) = 3  insert(0, 0, 6)  draw(1, 3)  draw(4, 3)  between(1, 4) = 0
+            frame(0, 3) = NONE  frame(1, 3) = 3  frame(2, 3) = 1  frame(3, 3) = 1  frame(4, 3) = 3  frame(5, 3) = NONE
+            """);
         edges.hold("Promise 11", "Returns the jump between the mouths drawn in the frames last - 1 and last then", Edges.THREE, """
             setNumber(0, 2)  insert(0, 0, 4)  draw(0, 0)  draw(3, 2)
             between(0, 3) = 6  frame(1, 3) = 0  frame(2, 3) = 0      # greater than the speed, for none comes nearer
@@ -286,6 +290,11 @@ public final class EdgesOfActionsTest {
             setNumber(0, 9)  insert(0, 0, 3)  draw(0, 0)  draw(2, 1)
             between(0, 2) = 5  frame(1, 3) = 2                # the opening 0 + 4 and the width 9 - 4
             draw(0, 1)  draw(2, 0)  between(0, 2) = 5  frame(1, 3) = 3
+            """);
+        edges.hold("Promise 11", lie, """
+            setMouth(0, 4, 0)  addMouth(4, 2) = 1  addMouth(4, 4) = 2  addMouth(4, 6) = 3  addMouth(4, 8) = 4
+            setNumber(0, 9)  insert(0, 0, 8)  draw(3, 0)  draw(7, 4)
+            between(3, 7) = 2  frame(4, 3) = 1  frame(5, 3) = 2  frame(6, 3) = 3       # not from frame 0, by the width
             """);
     }
 

@@ -144,6 +144,10 @@ public final class EdgesOfLookingTest {
             least(0) = 92  least(1) = 92              # 0 to frame 2, 2 to frame 5, 4 to frame 8, 6 to frame 11, and 4
             setNumber(1, 1)  least(0) = 10  least(1) = 10  pin(14, 7)  least(0) = 18  least(1) = 18
             """);
+        edges.hold("Promise 28", "Returns the sum of wrongness of the best plan.", Edges.SEGMENTS_30, Edges.EIGHT, """
+            least(0) = 0  least(1) = 0  pin(29, 0)  setNumber(1, 2)  least(0) = 3  least(1) = 3  leastWith(28, 0) = 6
+            frame(28, 6) = 3  frame(29, 6) = 0
+            """);
         edges.hold("Promise 28", "Returns the sum of wrongness of the best plan.", Edges.FRAMES_99, Edges.EIGHT, """
             setNumber(0, 1)  setNumber(1, 3)  pin(0, 0)  pin(98, 7)  least(0) = 40  least(1) = 40
             setNumber(1, 1)  least(0) = 16  least(1) = 16
@@ -241,12 +245,23 @@ public final class EdgesOfLookingTest {
         edges.hold("Promise 30", "4 none of these", Edges.THREE, """
             insert(0, 0, 3)  setNumber(1, 2)  pin(0, 0)  pin(2, 0)
             frame(1, 6) = 0  why(1) = 4        # both jumps are just the speed; the hold is the reason
+            setNumber(0, 4)  why(1) = 4        # ... and less than the speed
             setNumber(0, 2)  why(1) = 2
             setNumber(0, 3)  setNumber(1, 1)  why(1) = 0
             """);
         edges.hold("Promise 30", "4 none of these", Edges.THREE, """
             insert(0, 0, 2)  setNumber(1, 2)  pin(0, 0)  frame(1, 6) = 0  why(1) = 4      # there is no next frame
             pin(0, -1)  pin(1, 0)  frame(0, 6) = 0  why(0) = 4                            # there is no frame ahead
+            """);
+        edges.hold("Promise 30", "the next frame (if there is one)", """
+            setMouth(0, 9, 4)  addMouth(0, 4) = 1  addMouth(3, 4) = 2  insert(0, 0, 2)  setNumber(1, 2)  pin(0, 1)
+            frame(1, 6) = 1  why(1) = 4        # the rival is far from mouth 0
+            insert(1, 1, 1)  setMouth(2, 2, 4)  pin(2, 0)  why(0) = NONE  remove(1) = 2
+            why(1) = 4                         # nor is a frame looked at that is there no more
+            """);
+        edges.hold("Promise 30", "the frame ahead (if there is one)", """
+            setMouth(0, 9, 4)  addMouth(0, 4) = 1  addMouth(3, 4) = 2  insert(0, 0, 2)  setNumber(1, 2)  pin(1, 1)
+            frame(0, 6) = 1  why(0) = 4
             """);
         edges.hold("Promise 30", "why the best plan does not have a less wrong mouth", Edges.THREE, """
             insert(0, 0, 3)  setSound(0, 0, 6)  pin(0, 0)  draw(0, 2)  draw(1, 2)  draw(2, 2)
@@ -263,6 +278,13 @@ public final class EdgesOfLookingTest {
             setMouth(1, 4, 4)  setMouth(2, 2, 4)  frame(1, 6) = 0  why(1) = 2
             setMouth(2, 3, 4)  why(1) = 4      # the least wrong one, though of a greater number
             setMouth(2, 9, 4)  why(1) = 2
+            """);
+        edges.hold("Promise 30", sentence, """
+            insert(0, 0, 1)  setSound(0, 0, 0)  setSound(0, 1, 0)  why(0) = 0      # the only mouth there is
+            addMouth(0, 0) = 1  pin(0, 0)  why(0) = 1  undo()  undo()  why(0) = 0
+            """);
+        edges.hold("Promise 30", sentence, Edges.EIGHT, """
+            insert(0, 0, 2)  why(0) = 0  why(1) = 0  setSound(0, 0, 9)  why(0) = 0  frame(0, 6) = 7  pin(0, 0)  why(1) = 2
             """);
     }
 
@@ -327,10 +349,18 @@ public final class EdgesOfLookingTest {
             draw(4, 1)  fault(0) = NONE                    # the last run is too short, and goes on to the end
             draw(0, 1)  draw(1, 1)  draw(2, 1)  fault(0) = NONE
             """);
+        edges.hold("Promise 31", sentence, Edges.THREE, """
+            insert(0, 0, 4)  setNumber(1, 2)  draw(0, 1)  draw(1, 1)  draw(2, 0)  draw(3, 1)
+            fault(0) = 3  fault(1) = 4                     # the run amid is counted from its own first frame
+            draw(0, 0)  draw(1, 0)  draw(2, 1)  draw(3, 0)  fault(0) = 3  fault(1) = 4
+            draw(3, 1)  fault(0) = NONE
+            """);
         edges.hold("Promise 31", sentence, """
             addMouth(0, 4) = 1  insert(0, 0, 3)  draw(0, 0)  draw(1, 1)  draw(2, 0)  fault(0) = NONE
             setNumber(1, 2)  fault(0) = 1  fault(1) = 4    # of the same shape, but another mouth
             draw(1, 0)  draw(2, 1)  fault(0) = NONE
+            stretch(0, 4)  draw(3, 0)  fault(0) = 3  fault(1) = 4     # its run does not begin with its twin's
+            draw(3, 1)  fault(0) = NONE
             """);
         edges.hold("Promise 31", sentence, Edges.THREE, """
             setNumber(1, 3)  insert(0, 0, 1)  insert(1, 1, 2)  insert(2, 2, 1)

@@ -15,6 +15,7 @@ public final class EdgesOfTermsTest {
         test.pinnedPlans();
         test.speed();
         test.hold();
+        test.heldPlans();
         test.runs();
         test.bestOfSeveral();
         test.withoutFrames();
@@ -22,6 +23,7 @@ public final class EdgesOfTermsTest {
         test.gasps();
         test.breaths();
         test.snapshots();
+        test.fewerThanBefore();
         test.callsOfOneObject();
         test.severalObjects();
         test.edges.end();
@@ -290,6 +292,25 @@ public final class EdgesOfTermsTest {
             """);
     }
 
+    /** The mouths that are told are those of a plan that is held as the sum is. */
+    private void heldPlans() {
+        String sentence = "each run of frames with the same mouth .. has at least as many frames as the hold tells";
+        edges.hold("Plans", sentence, Edges.THREE, """
+            setNumber(1, 2)  setSound(0, 0, 0)  setSound(1, 2, 2)  insert(0, 0, 3)  insert(1, 1, 2)
+            least(0) = 0  frame(0, 6) = 0  frame(1, 6) = 0  frame(2, 6) = 0  frame(3, 6) = 1  frame(4, 6) = 1
+            """);
+        edges.hold("Plans", sentence, Edges.THREE, """
+            setNumber(1, 2)  setSound(0, 0, 0)  setSound(2, 0, 6)  insert(0, 0, 2)  insert(1, 1, 1)  insert(2, 2, 2)
+            least(0) = 3  frame(0, 6) = 0  frame(1, 6) = 0  frame(2, 6) = 1  frame(3, 6) = 1  frame(4, 6) = 2
+            finish() = 3  fault(0) = NONE
+            """);
+        edges.hold("Plans", sentence, Edges.THREE, """
+            setNumber(1, 2)  setSound(0, 0, 6)  setSound(2, 0, 0)  insert(0, 0, 2)  insert(1, 1, 1)  insert(2, 2, 2)
+            least(0) = 3  frame(0, 6) = 2  frame(1, 6) = 2  frame(2, 6) = 1  frame(3, 6) = 1  frame(4, 6) = 0
+            finish() = 3  fault(0) = NONE
+            """);
+    }
+
     private void runs() {
         String sentence = "by its number; a run is as long as it goes on";
         edges.hold("Plans", sentence, """
@@ -352,7 +373,8 @@ public final class EdgesOfTermsTest {
             """;
         edges.hold("Plans", sentence, script);
         edges.hold("Plans", sentence, Edges.THREE, "setNumber(1, 3)\n", script);
-        edges.hold("Plans", sentence, "insert(0, 0, 2) pin(0, 0) draw(0, 0) setNumber(3, 1) remove(0) = 0\n", script);
+        edges.hold("Plans", sentence, "insert(0, 0, 2) pin(0, 0) draw(0, 0) setNumber(3, 1)\n",
+            "least(0) = 6 least(1) = 6 frame(1, 6) = 0 count(5) = 1 remove(0) = 0\n", script);
     }
 
     private void airAheadOfAll() {
@@ -435,6 +457,21 @@ public final class EdgesOfTermsTest {
             count(8) = 2  count(7) = 5  count(6) = 2        # neither the text nor the history is of it
             restore(1) = 4
             """, same);
+    }
+
+    /** What was found for mouths, segments and frames that are there no more is not found again. */
+    private void fewerThanBefore() {
+        String sentence = "To restore it makes these those of the snapshot.";
+        edges.hold("Snapshots", sentence, """
+            insert(0, 0, 3)  take(0) = 3  addMouth(3, 4) = 1  addMouth(3, 4) = 2  least(0) = 0  frame(0, 6) = 1  nearest(3, 4) = 1
+            restore(0) = 3  least(0) = 9  least(1) = 9  frame(0, 6) = 0  frame(1, 6) = 0  frame(2, 6) = 0  why(1) = 0
+            nearest(3, 4) = 0  leastWith(0, 1) = BAD  speedFor(8) = NONE  speedFor(9) = 1
+            draw(0, 0)  draw(2, 0)  between(0, 2) = 0  frame(1, 3) = 0
+            """);
+        edges.hold("Snapshots", sentence, "take(0) = 0\n", Edges.FRAMES_99, """
+            least(0) = 297  least(1) = 297  count(5) = 59  restore(0) = 0  least(0) = 0  least(1) = 0  count(5) = 0
+            insert(0, 9, 1)  least(0) = 45  least(1) = 45  frame(0, 5) = 0  count(5) = 0
+            """);
     }
 
     /** "An object is used for at most 512 calls after it has been made": the last of them is right as the first is. */

@@ -22,6 +22,7 @@ final class Edges {
 
     private static final int MOST_CALLS = 512;
     private static final int MOST_STATES = 5;
+    private static final int MOST_PRINTED = 20;
     private static final int NO_SLOT = -1;
     private static final Pattern STEP =
         Pattern.compile("write \"([^\"]*)\"|(\\w+)\\(([^)]*)\\)(?:\\s*=\\s*(-?\\w+))?|#[^\n]*|\\s+");
@@ -130,7 +131,9 @@ final class Edges {
 
     void wrong(String what) {
         wrong++;
-        System.out.println(what);
+        if (wrong <= MOST_PRINTED) {
+            System.out.println(what);
+        }
     }
 
     private void holdLaws(String where, Step step, int answer, World before, World after, List<Step> done) {
@@ -138,23 +141,30 @@ final class Edges {
         boolean isAction = Calls.isAction(step.which) && !step.isError(answer);
         if (isAction) {
             List<String> recorded = states.subList(0, Math.min(MOST_STATES, states.size()));
-            same(where + ": the history", recorded, after.states.subList(1, after.states.size()));
+            sameStates(where + ": the history", recorded, after.states.subList(1, after.states.size()));
             boolean isRead = step.which == Calls.LOAD;
             List<Step> undone = new ArrayList<>(done);
             undone.add(new Step(Calls.UNDO, new int[0], null, false));
             same(where + ": the text", isRead ? "0: 0" : before.text, isRead ? start(after.text) : text(undone));
         } else if (step.which == Calls.UNDO && !step.isError(answer)) {
-            same(where + ": the states", states.subList(1, states.size()), after.states);
+            sameStates(where + ": the states", states.subList(1, states.size()), after.states);
             same(where + ": the states left", "" + (states.size() - 2), "" + answer);
             same(where + ": the length of the text", length(before.text), length(after.text));
         } else {
-            same(where + ": the states", states, after.states);
+            sameStates(where + ": the states", states, after.states);
             boolean isOfText = step.which == Calls.APPEND || step.which == Calls.CLEAR;
             same(where + ": the text", isOfText && !step.isError(answer) ? after.text : before.text, after.text);
         }
     }
 
-    private void same(String what, Object due, Object got) {
+    private void sameStates(String what, List<String> due, List<String> got) {
+        same(what + ", its length", "" + due.size(), "" + got.size());
+        for (int i = 0; i < Math.min(due.size(), got.size()); i++) {
+            same(what + ", " + i + " states back", due.get(i), got.get(i));
+        }
+    }
+
+    private void same(String what, String due, String got) {
         if (!due.equals(got)) {
             wrong(what + " is not as due:\n  due " + due + "\n  got " + got);
         }

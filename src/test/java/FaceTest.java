@@ -1,10 +1,13 @@
+import java.io.DataInputStream;
 import java.io.IOException;
+import java.lang.reflect.Array;
 import java.lang.reflect.Constructor;
 import java.lang.reflect.Field;
 import java.lang.reflect.Method;
 import java.lang.reflect.Modifier;
 import java.nio.file.Files;
 import java.nio.file.Path;
+import java.util.ArrayList;
 import java.util.Arrays;
 import java.util.Collections;
 import java.util.HashSet;
@@ -27,12 +30,24 @@ public final class FaceTest {
         "\\b(Thread|Random|Map|Set|String\\.format|Optional|Stream|var)\\b", "\\bstatic\\s*\\{", "\"\\s*\\+", "\\+\\s*\"",
         "[^\\x00-\\x7f]");
 
+    private static final List<String> LIBRARY = List.of("java/lang/Object.<init>()V", "java/lang/Math.abs(I)I",
+        "java/lang/Math.max(II)I", "java/lang/Math.min(II)I",
+        "java/lang/System.arraycopy(Ljava/lang/Object;ILjava/lang/Object;II)V");
+    // Some five hundredth of the room that all calls of a run live in.
+    private static final int MOST_OBJECTS = 1000;
+    private static final int MOST_ELEMENTS = 14000;
+
     private static int wrong = 0;
 
     public static void main(String[] args) throws IOException, IllegalAccessException {
         members();
         constants();
         methods();
+        library(LipFlaps.class);
+        for (Class<?> inside : LipFlaps.class.getDeclaredClasses()) {
+            library(inside);
+        }
+        room();
         rules(Files.readString(Path.of(args.length > 0 ? args[0] : "src/main/java/LipFlaps.java")));
         System.out.println(wrong == 0 ? "the face is as due" : wrong + " things are not as due");
         if (wrong != 0) {
@@ -118,6 +133,74 @@ public final class FaceTest {
         }
     }
 
+    /** Rule 4: all that the compiled class calls outside the file; nothing that is linked at run time. */
+    private static void library(Class<?> type) throws IOException {
+        try (DataInputStream in = new DataInputStream(FaceTest.class.getResourceAsStream(type.getName() + ".class"))) {
+            in.skipNBytes(8);
+            Object[] constants = new Object[in.readUnsignedShort()];
+            for (int i = 1; i < constants.length; i++) {
+                int tag = in.readUnsignedByte();
+                due(type + " is linked at run time", tag < 15);
+                switch (tag) {
+                    case 1: constants[i] = in.readUTF(); break;
+                    case 3: case 4: in.readInt(); break;
+                    case 5: case 6: in.readLong(); i++; break;
+                    case 7: case 8: constants[i] = new int[] {tag, in.readUnsignedShort(), 0}; break;
+                    case 9: case 10: case 11: case 12:
+                        constants[i] = new int[] {tag, in.readUnsignedShort(), in.readUnsignedShort()};
+                        break;
+                    default: return;
+                }
+            }
+            calls(type, constants);
+        }
+    }
+
+    private static void calls(Class<?> type, Object[] constants) {
+        for (Object constant : constants) {
+            if (!(constant instanceof int[] reference) || reference[0] < 9 || reference[0] > 11) {
+                continue;
+            }
+            Object owner = constants[((int[]) constants[reference[1]])[1]];
+            int[] name = (int[]) constants[reference[2]];
+            String call = owner + "." + constants[name[1]] + constants[name[2]];
+            due(type + " uses " + call, call.startsWith("LipFlaps") || LIBRARY.contains(call));
+        }
+    }
+
+    /** All that an object holds, which is all that its calls need, since no call makes an object. */
+    private static void room() throws IllegalAccessException {
+        List<Object> found = new ArrayList<>();
+        found.add(new LipFlaps());
+        int elements = 0;
+        for (int i = 0; i < found.size(); i++) {
+            elements += elementsOf(found.get(i), found);
+        }
+        due("one object is " + found.size() + " objects", found.size() <= MOST_OBJECTS);
+        due("one object has " + elements + " fields and elements", elements <= MOST_ELEMENTS);
+    }
+
+    private static int elementsOf(Object object, List<Object> found) throws IllegalAccessException {
+        if (object.getClass().isArray()) {
+            int length = Array.getLength(object);
+            for (int i = 0; i < length && !object.getClass().getComponentType().isPrimitive(); i++) {
+                found.add(Array.get(object, i));
+            }
+            return length;
+        }
+        int fields = 0;
+        for (Field field : object.getClass().getDeclaredFields()) {
+            if (!Modifier.isStatic(field.getModifiers())) {
+                fields++;
+                field.setAccessible(true);
+                if (!field.getType().isPrimitive()) {
+                    found.add(field.get(object));
+                }
+            }
+        }
+        return fields;
+    }
+
     private static void rules(String source) {
         String code = source.replaceAll("(?s)/\\*.*?\\*/", "").replaceAll("//[^\n]*", "");
         for (String banned : BANNED) {
@@ -128,7 +211,10 @@ public final class FaceTest {
         int found = 0;
         while (methods.find()) {
             found++;
-            due("a long method: " + methods.group().substring(0, 60), methods.group().split("\n").length <= 60);
+            String method = methods.group();
+            due("a long method: " + method.substring(0, 60), method.split("\n").length <= 60);
+            boolean isConstructor = method.substring(0, method.indexOf('(')).matches("\\s*(public )?[A-Z]\\w*");
+            due("a method makes objects: " + method.substring(0, 60), isConstructor || !method.matches("(?s).*\\bnew\\b.*"));
         }
         due("methods are found in the file", found > 60);
     }
